@@ -846,7 +846,6 @@ public final class FairChecker {
         private int lookedFor = NO_FACT;
         private int trappedStates;
         private int fairTo;
-        private boolean hasInnerStep;
         private boolean goesToBad;
 
         void forget() {
@@ -937,7 +936,6 @@ public final class FairChecker {
         /** Closes the set of states that wait from this one on. */
         private void close(int root, StateSpace space, int everyProcess) {
             fairTo = 0;
-            hasInnerStep = false;
             goesToBad = false;
             int bottom = waitingCount;
             boolean isRootSeen = false;
@@ -946,8 +944,8 @@ public final class FairChecker {
                 lookAt(waiting[bottom], space);
                 isRootSeen = waiting[bottom] == root;
             }
-            boolean goesOn = hasInnerStep || space.stepsOf(root) == 0;
-            boolean isTrap = goesOn && (fairTo & everyProcess) == everyProcess;
+            // A set without a step of its own passes just if it is a state that has no steps at all.
+            boolean isTrap = (fairTo & everyProcess) == everyProcess;
             if (isTrap) {
                 trappedStates += waitingCount - bottom;
             }
@@ -967,7 +965,6 @@ public final class FairChecker {
                 int packed = space.packedStep(state, i);
                 int target = StateSpace.partOf(packed, 0);
                 if (isWithout[target] && isWaiting[target]) {
-                    hasInnerStep = true;
                     fairTo |= StateSpace.takersOf(packed);
                 } else if (isWithout[target] && isBadHere[target]) {
                     goesToBad = true;

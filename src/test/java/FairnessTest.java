@@ -12,6 +12,8 @@ public final class FairnessTest {
         stuckStates();
         alone();
         badThroughOthers();
+        goesToQ();
+        longRound();
         firstBadState();
         followsTheLastExploring();
         EXPECT.end();
@@ -198,6 +200,49 @@ public final class FairnessTest {
         EXPECT.same("17: the end without q", x.trapped(4), 1);
         EXPECT.same("15: 1 leads to q", x.leads(1, 4), -1);
         EXPECT.same("17: both ends", x.trapped(0), 2);
+    }
+
+    private static void goesToQ() {
+        FairChecker x = new FairChecker();
+        x.addProcess(3);
+        x.addMove(0, 0, 1, 0);
+        x.addMove(0, 1, 2, 0);
+        x.addFact(0, 0, 2);
+        x.addFact(0, 0, 0);
+        x.explore();
+        sameBad("16: nothing stays without q", x, 0, 0, 0, 0);
+        EXPECT.same("15: 0 leads to the end", x.leads(1, 0), -1);
+        EXPECT.same("17: no trap", x.trapped(0), 0);
+    }
+
+    /** The states of a round belong to one trap, though each leads to the next one alone. */
+    private static void longRound() {
+        FairChecker x = new FairChecker();
+        x.addProcess(5);
+        int[][] moves = {{0, 1}, {1, 2}, {2, 3}, {3, 1}, {2, 4}};
+        for (int[] m : moves) {
+            x.addMove(0, m[0], m[1], 0);
+        }
+        x.addFact(0, 0, 4);
+        x.addFact(0, 0, 3);
+        x.explore();
+        EXPECT.same("17: the round alone", x.trapped(0), 3);
+        sameBad("16: the round and ahead of it", x, 0, 1, 1, 1, 1, 0);
+        EXPECT.same("17: without 3 the end alone", x.trapped(1), 1);
+        FairChecker y = new FairChecker();
+        y.addProcess(3);
+        y.addProcess(2);
+        for (int l = 0; l < 3; l++) {
+            y.addMove(0, l, (l + 1) % 3, 0);
+        }
+        y.addVariable(1, 0);
+        y.deed(0, 0, 1, 0, 1);
+        y.deed(0, 2, 1, 0, 0);
+        y.addMove(1, 0, 1, 0);
+        y.guard(1, 0, 1, 0, 1);
+        y.addFact(0, 1, 1);
+        y.explore();
+        EXPECT.same("17: one state of the round where it is closed will do", y.trapped(0), 3);
     }
 
     private static void firstBadState() {

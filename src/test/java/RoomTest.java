@@ -11,7 +11,7 @@ public final class RoomTest {
 
     public static void main(String[] args) {
         long before = allocated();
-        FairChecker x = dearest(3);
+        FairChecker x = Protocols.dearest(3);
         dearestSteps(x);
         dearestQuestions(x);
         long dear = allocated() - before;
@@ -23,25 +23,6 @@ public final class RoomTest {
 
     private static long allocated() {
         return ((ThreadMXBean) ManagementFactory.getThreadMXBean()).getThreadAllocatedBytes(Thread.currentThread().getId());
-    }
-
-    /** All moves are always open and shake hands: 10 * 256 steps of each state. */
-    private static FairChecker dearest(int greatestOfThird) {
-        FairChecker x = new FairChecker();
-        int[] greatest = {9, 9, greatestOfThird};
-        for (int p = 0; p < 5; p++) {
-            x.addProcess(1);
-            for (int m = 0; m < 16; m++) {
-                x.addMove(p, 0, 0, 1);
-            }
-            if (p < 3) {
-                x.addVariable(greatest[p], 0);
-                for (int value = 0; value <= greatest[p]; value++) {
-                    x.deed(p, value, 1, p, value);
-                }
-            }
-        }
-        return x;
     }
 
     private static void dearestSteps(FairChecker x) {
@@ -76,7 +57,7 @@ public final class RoomTest {
     }
 
     private static void tooMany() {
-        FairChecker x = dearest(4);
+        FairChecker x = Protocols.dearest(4);
         for (int i = 0; i < 3; i++) {
             EXPECT.same("8: 500 states", x.explore(), -1);
             EXPECT.same("7: no steps", x.count(5), 0);
@@ -88,7 +69,7 @@ public final class RoomTest {
 
     private static void manyExplorings() {
         long before = allocated();
-        FairChecker x = dearest(3);
+        FairChecker x = Protocols.dearest(3);
         for (int i = 0; i < 300; i++) {
             x.guard(4, i % 16, i % 5, 2, i % 4);
             if (i % 10 == 0) {

@@ -226,7 +226,7 @@ public final class StatesTest {
     }
 
     /** A counter of three digits that goes through all its states, one behind the other. */
-    private static void longWay() {
+    private static FairChecker counter() {
         FairChecker x = new FairChecker();
         x.addProcess(3);
         x.addVariable(9, 0);
@@ -241,17 +241,27 @@ public final class StatesTest {
             x.guard(0, m, guards[m][0], guards[m][1], guards[m][2]);
             x.deed(0, m, deeds[m][0], deeds[m][1], deeds[m][2]);
         }
+        return x;
+    }
+
+    private static void longWay() {
+        FairChecker x = counter();
         int states = x.explore();
         EXPECT.same("18: a chain", states, 333);
         for (int s = 0; s < states; s++) {
             EXPECT.same("9: the depth in a chain", x.state(s, 10), s);
         }
         int last = states - 1;
+        EXPECT.same("18: behind a chain", x.way(last, last, 0), -1);
+        // An object is used for 512 calls alone: each one tells some steps of the way.
         for (int i = 0; i < last; i++) {
+            if (i % 100 == 0) {
+                x = counter();
+                x.explore();
+            }
             EXPECT.same("18: in a chain", x.way(last, i, 0), i);
             EXPECT.same("18: in a chain", x.step(i, x.way(last, i, 1), 0), i + 1);
         }
-        EXPECT.same("18: behind a chain", x.way(last, last, 0), -1);
     }
 
     private static void exploresAgain() {

@@ -579,6 +579,10 @@ public final class FairChecker {
         private static final int SLOT_SHIFT = 22;
         private static final int SPREAD = 0x9E3779B1;
         private static final int ROOM_AT_FIRST = 2048;
+        // No state has more: all moves have one hand, and each two processes pair all of theirs.
+        private static final int MOST_STEPS_OF_STATE =
+            MOST_PROCESSES * (MOST_PROCESSES - 1) / 2 * MOST_MOVES * MOST_MOVES;
+        private static final int MOST_STEPS = MOST_STATES * MOST_STEPS_OF_STATE;
 
         private final int[] keys = new int[MOST_STATES];
         private final int[] depths = new int[MOST_STATES];
@@ -731,7 +735,7 @@ public final class FairChecker {
                 return;
             }
             if (steps >= packedSteps.length) {
-                packedSteps = Arrays.copyOf(packedSteps, packedSteps.length * 2);
+                packedSteps = Arrays.copyOf(packedSteps, Math.min(packedSteps.length * 2, MOST_STEPS));
             }
             packedSteps[steps] = packedMovers | target;
             steps++;

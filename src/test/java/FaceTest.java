@@ -72,6 +72,13 @@ public final class FaceTest {
     }
 
     private static void noPrivateMethodBearsAPublicName() {
+        for (Method m : FairChecker.class.getDeclaredMethods()) {
+            for (Method own : FairChecker.class.getDeclaredMethods()) {
+                boolean bears = Modifier.isPrivate(m.getModifiers()) && Modifier.isPublic(own.getModifiers())
+                    && own.getName().equals(m.getName());
+                EXPECT.isTrue(m + " does not bear a public name: that", !bears);
+            }
+        }
         for (Class<?> inner : FairChecker.class.getDeclaredClasses()) {
             EXPECT.isTrue(inner + " is static: that", Modifier.isStatic(inner.getModifiers()));
             for (Method m : inner.getDeclaredMethods()) {
